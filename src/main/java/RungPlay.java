@@ -383,8 +383,7 @@ public final class RungPlay {
         }
 
         long bottom(int i, int j) {
-            int left = 2 * to - i - j;
-            return 0 <= left && left < TENS.length ? unit * TENS[left] : unit;
+            return unit * tens(2 * to - i - j);
         }
 
         void reckon(int serves) {
@@ -406,7 +405,7 @@ public final class RungPlay {
                 chances.put(i, j, winner == FIRST ? bottom(i, j) : 0);
                 lengths.put(i, j, 0);
             } else if (i + j == 2 * to) {
-                // P all: two points in a row decide, else it is the same again.
+                // P all, by PLAIN alone: two points in a row decide, or it is P all again.
                 chances.put(i, j, win * win);
                 lengths.put(i, j, 200);
             } else {
@@ -429,7 +428,7 @@ public final class RungPlay {
             return chances.at(i + 1, j) - chances.at(i, j + 1);
         }
 
-        /** The score's i (0) or j (1). */
+        /** The points of A's (what = 0), of B's (1) in it. */
         int heaviestScore(int what) {
             int answer = 0;
             long heaviestYet = -1;

@@ -11,7 +11,36 @@ public final class LadderTest {
         for (int run = 0; run < 120; run++) {
             againstTheWords(run);
         }
+        rulesToldAnewLeaveNothingBehind();
         due.end();
+    }
+
+    private static void rulesToldAnewLeaveNothingBehind() {
+        RungPlay used = new RungPlay();
+        for (int run = 0; run < 20; run++) {
+            RungPlay fresh = new RungPlay();
+            tellRules(used, 41 * run + 7);
+            tellRules(fresh, 41 * run + 7);
+            String at = ", told anew " + run;
+            int serves = run % 2;
+            due.is("chance" + at, used.chance(0, 1, serves, 0), fresh.chance(0, 1, serves, 0));
+            due.is("lasts" + at, used.lasts(0, 0, serves, 1), fresh.lasts(0, 0, serves, 1));
+            due.is("weight" + at, used.weight(0, 0, serves, 0), fresh.weight(0, 0, serves, 0));
+            due.is("heaviest" + at, used.heaviest(serves, 1), fresh.heaviest(serves, 1));
+            due.is("game" + at, used.game(serves), fresh.game(serves));
+            due.is("round" + at, used.round(0, 1, serves), fresh.round(0, 1, serves));
+            due.is("match" + at, used.match(0, 0, serves), fresh.match(0, 0, serves));
+        }
+    }
+
+    private static void tellRules(RungPlay x, int run) {
+        x.set(0, 1 + run % 9);
+        x.set(1, 1 + run / 9 % 9);
+        x.set(2, 1 + run % 5);
+        x.set(3, 1 + run % 6);
+        x.set(4, 1 + run % 3);
+        x.set(5, run / 3 % 4);
+        x.set(6, run / 7 % 3);
     }
 
     private static void knownGames() {
@@ -109,13 +138,7 @@ public final class LadderTest {
 
     private static void againstTheWords(int run) {
         RungPlay x = new RungPlay();
-        x.set(0, 1 + run % 9);
-        x.set(1, 1 + run / 9 % 9);
-        x.set(2, 1 + run % 5);
-        x.set(3, 1 + run % 6);
-        x.set(4, 1 + run % 3);
-        x.set(5, run / 3 % 4);
-        x.set(6, run / 7 % 3);
+        tellRules(x, run);
         int games = x.count(3);
         int sets = x.count(4);
         long[] game = {floorOf(x, x.count(5), 0), floorOf(x, 0, 1)};
