@@ -21,6 +21,7 @@ public final class EdgesOfLadderTest {
         matchIsAskedOfZeroToS();
         bothWithAllSetsAreRefused();
         theBoardIsNotLookedAt();
+        fewerGamesAndSetsToldAnewLeaveNothingBehind();
         due.end();
     }
 
@@ -301,5 +302,31 @@ public final class EdgesOfLadderTest {
         due.is("game", x.game(0), game);
         x.set(0, 7);
         due.is("a told anew", x.game(0), 700000);
+    }
+
+    private static void fewerGamesAndSetsToldAnewLeaveNothingBehind() {
+        RungPlay used = onePoint(6, 3, 6, 3);
+        for (int games = 6; games >= 1; games--) {
+            used.set(3, 6);
+            used.round(0, 0, 0);
+            used.set(3, games);
+            RungPlay fresh = onePoint(6, 3, games, 3);
+            for (int serves = 0; serves <= 1; serves++) {
+                due.is("G all", used.round(games, games, serves), 450000);
+                due.is("G, G - 1", used.round(games, games - 1, serves),
+                        fresh.round(games, games - 1, serves));
+                due.is("0 0", used.round(0, 0, serves), fresh.round(0, 0, serves));
+            }
+        }
+        for (int sets = 3; sets >= 1; sets--) {
+            used.set(4, 3);
+            used.match(0, 0, 0);
+            used.set(4, sets);
+            RungPlay fresh = onePoint(6, 3, 1, sets);
+            for (int serves = 0; serves <= 1; serves++) {
+                due.is("sets 0 0", used.match(0, 0, serves), fresh.match(0, 0, serves));
+                due.is("S - 1 all", used.match(sets - 1, sets - 1, serves), 423000);
+            }
+        }
     }
 }

@@ -24,6 +24,7 @@ public final class EdgesOfOddsTest {
         heaviestIsNotWon();
         heaviestAsksTwoAndTwo();
         oddsAreToldInPlayToo();
+        fewerPointsToldAnewLeaveNothingBehind();
         due.end();
     }
 
@@ -148,6 +149,9 @@ public final class EdgesOfOddsTest {
         lastsIs("even, P all", even, 4, 4, 4, 1);
         weightIs("even, P all", even, 4, 4, 1, 2);
         weightIs("the only point", rules(3, 1, 1), 0, 0, 1, 1);
+        chanceIs("nothing shared", rules(9, 4, 0), 4, 4, 81, 82);
+        chanceIs("2 shared", rules(8, 4, 0), 4, 4, 16, 17);
+        lastsIs("2 shared", rules(9, 4, 0), 4, 4, 100, 41);
     }
 
     /** The greatest parts there are: held against the straight sum, as fractions of wholes. */
@@ -360,5 +364,33 @@ public final class EdgesOfOddsTest {
         lastsIs("when it is over", x, 0, 0, 1, 1);
         weightIs("when it is over", x, 0, 0, 1, 1);
         heaviestIs("when it is over", x, 0, 0, 0);
+    }
+
+    // "P told anew": what was reckoned for more points, or by another KIND, is gone
+    private static void fewerPointsToldAnewLeaveNothingBehind() {
+        RungPlay used = new RungPlay();
+        for (int kind = 0; kind <= 2; kind++) {
+            for (int to = 5; to >= 1; to--) {
+                used.set(2, 5);
+                used.set(6, 0);
+                used.lasts(0, 0, 0, 0);
+                used.set(2, to);
+                used.set(6, kind);
+                RungPlay fresh = rules(6, to, kind);
+                for (int k = 0; k <= 1; k++) {
+                    sameAt(used, fresh, 0, 0, k);
+                    sameAt(used, fresh, to - 1, to, k);
+                    sameAt(used, fresh, to, to - 1, k);
+                    due.is("heaviest", used.heaviest(1, k), fresh.heaviest(1, k));
+                }
+            }
+        }
+    }
+
+    private static void sameAt(RungPlay used, RungPlay fresh, int i, int j, int part) {
+        String at = " " + i + " " + j + " part " + part;
+        due.is("chance" + at, used.chance(i, j, 1, part), fresh.chance(i, j, 1, part));
+        due.is("lasts" + at, used.lasts(i, j, 1, part), fresh.lasts(i, j, 1, part));
+        due.is("weight" + at, used.weight(i, j, 1, part), fresh.weight(i, j, 1, part));
     }
 }
